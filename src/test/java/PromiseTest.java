@@ -645,6 +645,21 @@ public final class PromiseTest {
         x.lay(12, 12, 0, noRow);
         due("depth beyond in the row", sendAndStep(x, 15), BEYOND);
         due("depth's total stays", x.total(2), 25);
+        onePlaceIsEnough();
+    }
+
+    private static void onePlaceIsEnough() {
+        SortingLine x = oneOfEach(1);
+        x.station(12, 7);
+        x.station(7, 8);
+        x.station(15, 9);
+        x.lay(8, 8, 0, 0);
+        x.lay(12, 12, 0, 8);
+        x.lay(15, 15, 0, 12);
+        x.lay(7, 7, 0, 5);
+        due("corner of one place", sendAndStep(x, 12), 0);
+        due("cell of one place", sendAndStep(x, 7), 1);
+        due("depth of one place", sendAndStep(x, 15), 2);
     }
 
     private static void corner(SortingLine x, int noRow, int noPile) {
@@ -893,17 +908,16 @@ public final class PromiseTest {
         x.station(17, 12);
         due("a station's total", x.total(0), 0);
         due("a station's slot", x.slot(0), NONE);
-        for (int k = 0; k < 2; k++) {
-            due("a row of numbers", x.row(6, 8), 2 * k);
-            due("a row of parcels", x.row(8, 8), 2 * k + 1);
-            for (int i = 0; i < 8; i++) {
-                due("its number", x.number(2 * k, 6, i), 0);
-                due("its place", x.place(2 * k + 1, 8, i), NONE);
-            }
+        due("a row of parcels, where one was", x.row(8, 8), 0);
+        due("a row of longs, where one was", x.row(6, 8), 1);
+        for (int i = 0; i < 8; i++) {
+            due("its place", x.place(0, 8, i), NONE);
+            due("its number", x.number(1, 6, i), 0);
         }
     }
 
     private static void fill(SortingLine x) {
+        x.row(8, -1);
         x.row(8, 8);
         x.row(6, 8);
         x.thing(1, 7);
