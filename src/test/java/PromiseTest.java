@@ -1,24 +1,10 @@
 /** Each promise of the document: ordinary inputs, the edges that it names, and wrong inputs. */
-public final class PromiseTest {
-    private static final int CAST = -21, NOTHING = -22, BEYOND = -23, STORE = -24, SIZE = -25;
-    private static final int UNKNOWN = SortingLine.UNKNOWN, OUTSIDE = SortingLine.OUTSIDE, FULL = SortingLine.FULL;
-    private static final int NONE = SortingLine.NONE, PASSED = SortingLine.PASSED;
-    private static final int[] WRONG = {Integer.MIN_VALUE, -21, -6, -5, -4, -3, -2, -1, 1000, Integer.MAX_VALUE};
-
-    /** The KINDS that each FORM is, as the document's Terms tell them. */
-    private static final int[][] IS = {
-        {0, 17}, {0, 1, 17}, {0, 1, 2, 16, 17}, {3, 16, 17},
-        {4, 17}, {5, 17}, {6, 17}, {7, 17},
-        {8, 17}, {8, 9, 17}, {8, 9, 10, 11, 17}, {11, 17},
-        {12, 17}, {12, 13, 17}, {14, 17}, {15, 17},
-    };
-
-    private static int wrong = 0;
+public final class PromiseTest extends Checks {
+    private static final int[] WRONG = {LEAST, -21, -6, -5, -4, -3, -2, -1, 1000, MOST};
 
     private static void due(String call, long got, long want) {
         if (got != want) {
-            wrong++;
-            System.out.println(call + " answered " + got + ", due is " + want);
+            tell(call + " answered " + got + ", due is " + want);
         }
     }
 
@@ -52,44 +38,15 @@ public final class PromiseTest {
         count();
         refusalsCountNothing();
         clear();
-        System.out.println(wrong == 0 ? "all answers are as due" : wrong + " answers are not as due");
-        if (wrong != 0) {
-            System.exit(1);
-        }
-    }
-
-    /** THING f is of FORM f; the rows have n places. */
-    private static SortingLine oneOfEach(int n) {
-        SortingLine x = new SortingLine();
-        for (int form = 0; form < 4; form++) {
-            x.thing(form, 5 + 10 * form);
-        }
-        for (int form = 4; form < 16; form++) {
-            x.row(form, n);
-        }
-        return x;
-    }
-
-    private static boolean isOf(int form, int kind) {
-        for (int one : IS[form]) {
-            if (one == kind) {
-                return true;
-            }
-        }
-        return false;
-    }
-
-    private static int sendAndStep(SortingLine x, int thing) {
-        x.send(thing);
-        return x.step();
+        finish();
     }
 
     // Promise 1
     private static void newObject() {
-        isAsNew("a new object", new SortingLine());
+        isAsNew("a new object", new Line());
     }
 
-    private static void isAsNew(String name, SortingLine x) {
+    private static void isAsNew(String name, Line x) {
         for (int what = 0; what <= 10; what++) {
             due(name + ": count(" + what + ")", x.count(what), 0);
         }
@@ -106,7 +63,7 @@ public final class PromiseTest {
 
     // Promise 2
     private static void thing() {
-        SortingLine x = new SortingLine();
+        Line x = new Line();
         due("thing(0, -1000)", x.thing(0, -1000), 0);
         due("thing(3, 1000)", x.thing(3, 1000), 1);
         due("its weight", x.weight(0, 0), -1000);
@@ -127,7 +84,7 @@ public final class PromiseTest {
 
     // Promise 3
     private static void row() {
-        SortingLine x = new SortingLine();
+        Line x = new Line();
         due("row(4, 0)", x.row(4, 0), 0);
         due("row(15, 8)", x.row(15, 8), 1);
         due("length of 0", x.length(0, 4), 0);
@@ -154,7 +111,7 @@ public final class PromiseTest {
     }
 
     private static void rowAtFirst() {
-        SortingLine x = oneOfEach(8);
+        Line x = oneOfEach(8);
         for (int i = 0; i < 8; i++) {
             for (int form = 4; form < 7; form++) {
                 due("number of a new row", x.number(form, form, i), 0);
@@ -167,7 +124,7 @@ public final class PromiseTest {
 
     // Promise 4
     private static void is() {
-        SortingLine x = oneOfEach(1);
+        Line x = oneOfEach(1);
         for (int form = 0; form < 16; form++) {
             for (int kind = 0; kind <= 17; kind++) {
                 due("is(" + form + ", " + kind + ")", x.is(form, kind), isOf(form, kind) ? 1 : 0);
@@ -185,7 +142,7 @@ public final class PromiseTest {
 
     // Promise 5
     private static void more() {
-        SortingLine x = oneOfEach(1);
+        Line x = oneOfEach(1);
         int[] want = {NONE, 0, 0, 16, NONE, NONE, NONE, NONE, NONE, 8, 8, NONE, NONE, 12, NONE, NONE};
         for (int form = 0; form < 16; form++) {
             due("more(" + form + ")", x.more(form), want[form]);
@@ -198,7 +155,7 @@ public final class PromiseTest {
 
     // Promise 6
     private static void weight() {
-        SortingLine x = oneOfEach(1);
+        Line x = oneOfEach(1);
         int casts = 0;
         for (int form = 0; form < 16; form++) {
             for (int kind = 0; kind < 3; kind++) {
@@ -221,14 +178,14 @@ public final class PromiseTest {
     // Promise 7
     private static void length() {
         for (int n = 0; n <= 8; n++) {
-            SortingLine x = oneOfEach(n);
+            Line x = oneOfEach(n);
             for (int form = 0; form < 16; form++) {
                 for (int kind = 4; kind < 16; kind++) {
                     due("length(" + form + ", " + kind + ")", x.length(form, kind), isOf(form, kind) ? n : CAST);
                 }
             }
         }
-        SortingLine x = oneOfEach(1);
+        Line x = oneOfEach(1);
         due("length(4, 3)", x.length(4, 3), OUTSIDE);
         due("length(4, 16)", x.length(4, 16), OUTSIDE);
         due("length(16, 3)", x.length(16, 3), UNKNOWN);
@@ -242,7 +199,7 @@ public final class PromiseTest {
 
     // Promises 8 and 9
     private static void putAndNumber() {
-        SortingLine x = oneOfEach(8);
+        Line x = oneOfEach(8);
         long[] numbers = {0, 1, -1, 127, 128, -128, -129, 255, 256, 2147483647L, 2147483648L, -2147483649L,
             4294967296L, Long.MAX_VALUE, Long.MIN_VALUE};
         for (long v : numbers) {
@@ -258,7 +215,7 @@ public final class PromiseTest {
     }
 
     private static void putRefused() {
-        SortingLine x = oneOfEach(2);
+        Line x = oneOfEach(2);
         for (int form = 0; form < 16; form++) {
             for (int kind = 4; kind < 7; kind++) {
                 due("put(" + form + ", " + kind + ", 0, 9)", x.put(form, kind, 0, 9), form == kind ? 1 : CAST);
@@ -278,73 +235,60 @@ public final class PromiseTest {
         due("what a refused put leaves", x.number(5, 5, 1), 0);
     }
 
-    private static String thrown(SortingLine x, int thing, int kind, int i) {
-        try {
-            return "" + x.number(thing, kind, i);
-        } catch (RuntimeException e) {
-            return e.getClass().getName();
-        }
-    }
-
     private static void dueText(String call, String got, String want) {
         if (!got.equals(want)) {
-            wrong++;
-            System.out.println(call + " answered " + got + ", due is " + want);
+            tell(call + " answered " + got + ", due is " + want);
         }
     }
 
     private static void numberThrows() {
-        SortingLine x = oneOfEach(2);
+        Line x = oneOfEach(2);
         String cast = "java.lang.ClassCastException";
         String beyond = "java.lang.ArrayIndexOutOfBoundsException";
         for (int form = 0; form < 16; form++) {
             for (int kind = 4; kind < 7; kind++) {
                 String call = "number(" + form + ", " + kind + ", ";
-                dueText(call + "0)", thrown(x, form, kind, 0), form == kind ? "0" : cast);
-                dueText(call + "2)", thrown(x, form, kind, 2), form == kind ? beyond : cast);
-                dueText(call + "-1)", thrown(x, form, kind, -1), form == kind ? beyond : cast);
+                dueText(call + "0)", x.numberOrThrown(form, kind, 0), form == kind ? "0" : cast);
+                dueText(call + "2)", x.numberOrThrown(form, kind, 2), form == kind ? beyond : cast);
+                dueText(call + "-1)", x.numberOrThrown(form, kind, -1), form == kind ? beyond : cast);
             }
         }
-        dueText("number(5, 3, 0)", thrown(x, 5, 3, 0), "0");
-        dueText("number(5, 7, 0)", thrown(x, 5, 7, 0), "0");
-        dueText("number(16, 5, 0)", thrown(x, 16, 5, 0), "0");
-        dueText("number(16, 7, 9)", thrown(x, 16, 7, 9), "0");
+        dueText("number(5, 3, 0)", x.numberOrThrown(5, 3, 0), "0");
+        dueText("number(5, 7, 0)", x.numberOrThrown(5, 7, 0), "0");
+        dueText("number(16, 5, 0)", x.numberOrThrown(16, 5, 0), "0");
+        dueText("number(16, 7, 9)", x.numberOrThrown(16, 7, 9), "0");
         for (int bad : WRONG) {
-            dueText("number(" + bad + ", 5, 0)", thrown(x, bad, 5, 0), "0");
-            dueText("number(5, " + bad + ", 0)", thrown(x, 5, bad, 0), "0");
-            dueText("number(5, 5, " + bad + ")", thrown(x, 5, 5, bad), beyond);
+            dueText("number(" + bad + ", 5, 0)", x.numberOrThrown(bad, 5, 0), "0");
+            dueText("number(5, " + bad + ", 0)", x.numberOrThrown(5, bad, 0), "0");
+            dueText("number(5, 5, " + bad + ")", x.numberOrThrown(5, 5, bad), beyond);
         }
         for (int what = 6; what <= 10; what++) {
             due("count(" + what + ") behind number", x.count(what), 0);
         }
     }
 
-    /** What each KIND from 7 on is a row of. */
-    private static final int[] ROW_OF = {5, 0, 1, 2, 16, 8, 9, 11, 12};
-
     private static int dueOfLay(int form, int kind, int i, int other) {
-        if (!isOf(form, kind) || !isOf(other, ROW_OF[kind - 7])) {
+        if (!isOf(form, kind) || !isOf(other, rowOf(kind))) {
             return CAST;
         }
         if (i < 0 || i >= 3) {
             return BEYOND;
         }
-        return isOf(other, ROW_OF[form - 7]) ? 1 : STORE;
+        return isOf(other, rowOf(form)) ? 1 : STORE;
     }
 
     // Promise 10
     private static void lay() {
         for (int kind = 7; kind < 16; kind++) {
-            SortingLine x = oneOfEach(3);
             for (int form = 0; form < 16; form++) {
-                layEach(x, form, kind);
+                layEach(oneOfEach(3), form, kind);
             }
         }
         layCounts();
         layRefused();
     }
 
-    private static void layEach(SortingLine x, int form, int kind) {
+    private static void layEach(Line x, int form, int kind) {
         for (int other = 0; other < 16; other++) {
             String call = "lay(" + form + ", " + kind + ", 2, " + other + ")";
             int before = isOf(form, kind) ? x.place(form, kind, 2) : NONE;
@@ -366,7 +310,7 @@ public final class PromiseTest {
     }
 
     private static void layCounts() {
-        SortingLine x = oneOfEach(2);
+        Line x = oneOfEach(2);
         due("CAST of both is one", x.lay(0, 8, 9, 3), CAST);
         due("CAST of the other ahead of BEYOND", x.lay(8, 8, 9, 3), CAST);
         due("BEYOND ahead of STORE", x.lay(9, 8, 2, 0), BEYOND);
@@ -381,7 +325,7 @@ public final class PromiseTest {
     }
 
     private static void layRefused() {
-        SortingLine x = oneOfEach(2);
+        Line x = oneOfEach(2);
         due("lay(16, 8, 0, 0)", x.lay(16, 8, 0, 0), UNKNOWN);
         due("lay(8, 8, 0, 16)", x.lay(8, 8, 0, 16), UNKNOWN);
         due("lay(8, 6, 0, 16)", x.lay(8, 6, 0, 16), UNKNOWN);
@@ -398,7 +342,7 @@ public final class PromiseTest {
 
     // Promise 11
     private static void place() {
-        SortingLine x = oneOfEach(2);
+        Line x = oneOfEach(2);
         x.lay(10, 10, 1, 2);
         int findings = 0;
         for (int form = 0; form < 16; form++) {
@@ -425,7 +369,7 @@ public final class PromiseTest {
 
     // Promise 12
     private static void station() {
-        SortingLine x = new SortingLine();
+        Line x = new Line();
         for (int bad : WRONG) {
             due("station(" + bad + ", 0)", x.station(bad, 0), OUTSIDE);
             due("station(0, " + bad + ")", x.station(0, bad), OUTSIDE);
@@ -443,7 +387,7 @@ public final class PromiseTest {
 
     // Promise 13
     private static void send() {
-        SortingLine x = oneOfEach(1);
+        Line x = oneOfEach(1);
         due("send(16)", x.send(16), UNKNOWN);
         for (int bad : WRONG) {
             due("send(" + bad + ")", x.send(bad), UNKNOWN);
@@ -461,7 +405,7 @@ public final class PromiseTest {
 
     // Promise 14
     private static void step() {
-        SortingLine x = oneOfEach(1);
+        Line x = oneOfEach(1);
         due("an empty belt", x.step(), NONE);
         due("no station", sendAndStep(x, 0), PASSED);
         x.station(2, 12);
@@ -482,7 +426,7 @@ public final class PromiseTest {
 
     private static void eachGate() {
         for (int gate = 0; gate <= 17; gate++) {
-            SortingLine x = oneOfEach(1);
+            Line x = oneOfEach(1);
             x.station(gate, 12);
             for (int form = 0; form < 16; form++) {
                 due("gate " + gate + ", form " + form, sendAndStep(x, form), isOf(form, gate) ? 0 : PASSED);
@@ -490,12 +434,9 @@ public final class PromiseTest {
         }
     }
 
-    /** The KIND that each WORK takes a THING for. */
-    private static final int[] TAKEN_FOR = {0, 16, 5, 6, 4, 8, 8, 12, 7, 15, 11, 8, 17};
-
     private static void stepFindings() {
         for (int work = 0; work <= 12; work++) {
-            SortingLine x = oneOfEach(0);
+            Line x = oneOfEach(0);
             x.station(17, work);
             for (int form = 0; form < 16; form++) {
                 boolean wantsPlace = work == 6 || work == 7 || work == 8 || work == 9;
@@ -514,7 +455,7 @@ public final class PromiseTest {
     }
 
     private static void workWeighAndOpen() {
-        SortingLine x = oneOfEach(1);
+        Line x = oneOfEach(1);
         x.station(3, 0);
         x.station(0, 0);
         x.station(17, 1);
@@ -525,7 +466,7 @@ public final class PromiseTest {
         due("total", x.total(1), 30);
         due("slot", x.slot(1), 2);
         due("open bytes", sendAndStep(x, 4), CAST);
-        SortingLine y = oneOfEach(1);
+        Line y = oneOfEach(1);
         y.station(17, 1);
         due("open a safe", sendAndStep(y, 2), 0);
         due("its key", y.total(0), 76);
@@ -540,7 +481,7 @@ public final class PromiseTest {
     }
 
     private static void workAdd() {
-        SortingLine x = oneOfEach(3);
+        Line x = oneOfEach(3);
         x.station(5, 2);
         x.station(6, 3);
         x.station(4, 4);
@@ -570,7 +511,7 @@ public final class PromiseTest {
     }
 
     private static void workHeapAndKeys() {
-        SortingLine x = oneOfEach(2);
+        Line x = oneOfEach(2);
         x.station(8, 5);
         x.station(17, 10);
         x.lay(8, 8, 0, 0);
@@ -590,7 +531,7 @@ public final class PromiseTest {
         due("keys", sendAndStep(x, 11), 1);
         due("keys' total", x.total(1), 76 + 28);
         due("keys of numbers", sendAndStep(x, 5), CAST);
-        SortingLine y = oneOfEach(2);
+        Line y = oneOfEach(2);
         y.station(11, 10);
         y.lay(10, 10, 0, 2);
         y.lay(10, 8, 1, 2);
@@ -600,7 +541,7 @@ public final class PromiseTest {
 
     // The SLOT of a STATION that packs can not but hold NOTHING: only WEIGH and HOLD fill one, and each its own.
     private static void workPack() {
-        SortingLine x = oneOfEach(2);
+        Line x = oneOfEach(2);
         x.station(0, 0);
         x.station(17, 6);
         sendAndStep(x, 0);
@@ -617,7 +558,7 @@ public final class PromiseTest {
     }
 
     private static void workCornerCellDepth() {
-        SortingLine x = oneOfEach(2);
+        Line x = oneOfEach(2);
         x.station(12, 7);
         x.station(7, 8);
         x.station(15, 9);
@@ -649,7 +590,7 @@ public final class PromiseTest {
     }
 
     private static void onePlaceIsEnough() {
-        SortingLine x = oneOfEach(1);
+        Line x = oneOfEach(1);
         x.station(12, 7);
         x.station(7, 8);
         x.station(15, 9);
@@ -662,7 +603,7 @@ public final class PromiseTest {
         due("depth of one place", sendAndStep(x, 15), 2);
     }
 
-    private static void corner(SortingLine x, int noRow, int noPile) {
+    private static void corner(Line x, int noRow, int noPile) {
         due("corner of nothing", sendAndStep(x, 12), NOTHING);
         due("corner beyond", sendAndStep(x, noPile), BEYOND);
         x.lay(12, 12, 0, noRow);
@@ -678,7 +619,7 @@ public final class PromiseTest {
     }
 
     private static void workSpill() {
-        SortingLine x = oneOfEach(4);
+        Line x = oneOfEach(4);
         x.station(8, 11);
         x.lay(8, 8, 0, 2);
         x.lay(8, 8, 2, 0);
@@ -697,15 +638,15 @@ public final class PromiseTest {
         spillWithoutRoom();
     }
 
-    private static SortingLine oneWithSpill() {
-        SortingLine x = new SortingLine();
+    private static Line oneWithSpill() {
+        Line x = new Line();
         x.row(10, 8);
         x.station(10, 11);
         return x;
     }
 
     private static void spillWithoutRoom() {
-        SortingLine x = oneOfEach(4);
+        Line x = oneOfEach(4);
         x.station(8, 11);
         x.lay(9, 9, 1, 1);
         x.lay(9, 9, 2, 2);
@@ -725,7 +666,7 @@ public final class PromiseTest {
     }
 
     private static void workHold() {
-        SortingLine x = oneOfEach(1);
+        Line x = oneOfEach(1);
         x.station(17, 12);
         for (int form = 0; form < 16; form++) {
             due("hold", sendAndStep(x, form), 0);
@@ -736,7 +677,7 @@ public final class PromiseTest {
 
     // Promise 15
     private static void run() {
-        SortingLine x = oneOfEach(1);
+        Line x = oneOfEach(1);
         x.station(0, 0);
         x.station(16, 0);
         for (int bad : new int[] {-1, 101, Integer.MIN_VALUE, Integer.MAX_VALUE}) {
@@ -758,7 +699,7 @@ public final class PromiseTest {
     }
 
     private static void runOverSpills() {
-        SortingLine x = oneOfEach(8);
+        Line x = oneOfEach(8);
         x.station(8, 11);
         x.station(0, 0);
         for (int i = 0; i < 8; i++) {
@@ -775,7 +716,7 @@ public final class PromiseTest {
 
     // Promises 16 and 17
     private static void totalAndSlot() {
-        SortingLine x = oneOfEach(1);
+        Line x = oneOfEach(1);
         x.station(0, 0);
         sendAndStep(x, 1);
         due("total(0)", x.total(0), 15);
@@ -794,7 +735,7 @@ public final class PromiseTest {
 
     // Promise 18
     private static void belt() {
-        SortingLine x = oneOfEach(1);
+        Line x = oneOfEach(1);
         for (int round = 0; round < 7; round++) {
             for (int thing = 0; thing < 15; thing++) {
                 x.send(thing);
@@ -820,7 +761,7 @@ public final class PromiseTest {
 
     // Promise 19
     private static void side() {
-        SortingLine x = new SortingLine();
+        Line x = new Line();
         x.station(4, 0);
         x.station(17, 10);
         int bytes = x.row(4, 0);
@@ -828,13 +769,17 @@ public final class PromiseTest {
         due("side of none", x.side(0, 0), NONE);
         for (int k = 1; k <= 50; k++) {
             sendAndStep(x, k % 3 == 0 ? keys : bytes);
-            for (int i = 0; i <= 20; i++) {
-                boolean told = i < 20 && i < k;
-                boolean isKeys = (k - i) % 3 == 0;
-                due("side(" + i + ", 0) of " + k, x.side(i, 0), told ? isKeys ? keys : bytes : NONE);
-                due("side(" + i + ", 1) of " + k, x.side(i, 1), told ? isKeys ? 1 : 0 : NONE);
-                due("side(" + i + ", 2) of " + k, x.side(i, 2), told ? isKeys ? 2 : 1 : NONE);
-            }
+            boolean isKeys = k % 3 == 0;
+            due("side(0, 0) of " + k, x.side(0, 0), isKeys ? keys : bytes);
+            due("side(0, 1) of " + k, x.side(0, 1), isKeys ? 1 : 0);
+            due("side(0, 2) of " + k, x.side(0, 2), isKeys ? 2 : 1);
+        }
+        for (int i = 0; i <= 20; i++) {
+            boolean told = i < 20;
+            boolean isKeys = (50 - i) % 3 == 0;
+            due("side(" + i + ", 0)", x.side(i, 0), told ? isKeys ? keys : bytes : NONE);
+            due("side(" + i + ", 1)", x.side(i, 1), told ? isKeys ? 1 : 0 : NONE);
+            due("side(" + i + ", 2)", x.side(i, 2), told ? isKeys ? 2 : 1 : NONE);
         }
         for (int bad : WRONG) {
             due("side(0, " + bad + ")", x.side(0, bad), OUTSIDE);
@@ -846,7 +791,7 @@ public final class PromiseTest {
 
     // Promise 20
     private static void count() {
-        SortingLine x = oneOfEach(1);
+        Line x = oneOfEach(1);
         x.station(0, 0);
         x.station(8, 5);
         x.station(3, 0);
@@ -870,7 +815,7 @@ public final class PromiseTest {
 
     /** Refused calls change nothing, and are no FINDINGS. */
     private static void refusalsCountNothing() {
-        SortingLine x = oneOfEach(1);
+        Line x = oneOfEach(1);
         x.station(17, 12);
         x.thing(4, 0);
         x.row(5, 9);
@@ -896,7 +841,7 @@ public final class PromiseTest {
 
     // Promise 21
     private static void clear() {
-        SortingLine x = new SortingLine();
+        Line x = new Line();
         due("clear() of nothing", x.clear(), 0);
         isAsNew("cleared when new", x);
         for (int round = 0; round < 3; round++) {
@@ -916,7 +861,7 @@ public final class PromiseTest {
         }
     }
 
-    private static void fill(SortingLine x) {
+    private static void fill(Line x) {
         x.row(8, -1);
         x.row(8, 8);
         x.row(6, 8);
