@@ -51,6 +51,7 @@ public final class PromiseBoundaryTest extends Checks {
         countsOfFindings();
         clearOfNothing();
         clearOfAll();
+        clearedTakesAsMuchAgain();
         finish();
     }
 
@@ -1017,17 +1018,38 @@ public final class PromiseBoundaryTest extends Checks {
         dueFresh(x);
     }
 
-    /** 100 THINGS, 8 STATIONS, a full BELT, a full SIDE, and FINDINGS of each sort. */
+    private static void clearedTakesAsMuchAgain() {
+        about("clear: All is as at the beginning: as much can be made as before");
+        Line x = new Line();
+        for (int round = 0; round < 2; round++) {
+            fill(x);
+            due(x.thing(0, 0), FULL);
+            due(x.row(4, 0), FULL);
+            due(x.station(0, 0), FULL);
+            due(x.send(0), FULL);
+            due(x.belt(39), 0);
+            due(x.side(0, 2), 2);
+            due(x.side(19, 2), 1);
+            due(x.total(1), 4);
+            due(x.slot(1), 4);
+            due(x.clear(), 100);
+        }
+    }
+
+    /** 100 THINGS, 8 STATIONS, a full BELT, a full SIDE, STEPS and FINDINGS of each sort. */
     private static void fill(Line x) {
         x.row(6, 8);
         x.row(8, 8);
-        for (int k = 2; k < 100; k++) {
+        due(x.row(9, -1), SIZE);
+        for (int k = 2; k < 99; k++) {
             x.thing(k % 4, k);
         }
+        x.row(9, 1);
         for (int i = 0; i < 8; i++) {
             x.put(0, 6, i, -7);
             x.lay(1, 8, i, 4);
         }
+        due(sendAndStep(x, 2), PASSED);
         x.station(3, WEIGH);
         x.station(0, WEIGH);
         x.station(6, ADD_LONGS);
@@ -1042,6 +1064,11 @@ public final class PromiseBoundaryTest extends Checks {
         x.lay(1, 8, 7, NONE);
         due(sendAndStep(x, 1), NOTHING);
         due(x.place(1, 8, 8), BEYOND);
+        due(x.lay(99, 8, 0, 4), STORE);
+        int[] counts = {100, 8, 0, 3, 1, 26, 25, 1, 1, 1, 1};
+        for (int what = 0; what <= 10; what++) {
+            due(x.count(what), counts[what]);
+        }
         sendOften(x, 0, 40);
     }
 
@@ -1065,5 +1092,21 @@ public final class PromiseBoundaryTest extends Checks {
         due(x.slot(0), 2);
         due(x.count(3), 1);
         due(x.count(5), 0);
+        dueSideAgain(x);
+    }
+
+    private static void dueSideAgain(Line x) {
+        due(x.clear(), 3);
+        x.thing(3, 0);
+        x.station(17, WEIGH);
+        for (int came = 1; came <= 2; came++) {
+            due(sendAndStep(x, 0), CAST);
+            due(x.side(came - 1, 0), 0);
+            due(x.side(came - 1, 1), 0);
+            due(x.side(came - 1, 2), 1);
+            due(x.side(came, 0), NONE);
+        }
+        due(x.count(5), 2);
+        due(x.count(6), 2);
     }
 }

@@ -32,12 +32,12 @@ public final class RefusalTest extends Checks {
         Line make() {
             Line x = oneOfEach(2);
             for (int k = 16; k < made; k++) {
-                x.thing(k % 4, k);
+                x.thing((k + 1) % 4, k);
             }
             fillRows(x);
             makeStations(x);
             for (int k = 0; k < (this == ROOMY ? 3 : 20); k++) {
-                x.send(k % 3 == 2 ? 3 : 4);
+                x.send(k % 3 == 2 ? 5 : 4);
             }
             x.run(100);
             for (int k = 0; k < (this == ROOMY ? 5 : 40); k++) {
@@ -64,7 +64,7 @@ public final class RefusalTest extends Checks {
         }
 
         private void makeStations(Line x) {
-            int[][] gatesAndWorks = {{0, WEIGH}, {3, WEIGH}, {4, OPEN}, {5, ADD_INTS}, {8, HEAP}, {12, CORNER},
+            int[][] gatesAndWorks = {{0, WEIGH}, {3, OPEN}, {4, OPEN}, {5, WEIGH}, {8, HEAP}, {12, CORNER},
                 {15, DEPTH}, {7, HOLD}};
             for (int k = 0; k < (this == ROOMY ? 4 : 8); k++) {
                 x.station(gatesAndWorks[k][0], gatesAndWorks[k][1]);
@@ -151,6 +151,7 @@ public final class RefusalTest extends Checks {
     }
 
     public static void main(String[] args) {
+        statesAreAsMeant();
         for (State state : State.values()) {
             about("Refused, and nothing changes (" + state + ")");
             makings(state);
@@ -167,6 +168,18 @@ public final class RefusalTest extends Checks {
             asks(state);
         }
         finish();
+    }
+
+    private static void statesAreAsMeant() {
+        about("the states that calls are refused in");
+        Line roomy = State.ROOMY.make();
+        int[] some = {16, 4, 5, 0, 0, 3};
+        Line full = State.FULL_UP.make();
+        int[] most = {100, 8, 40, 0, 0, 20};
+        for (int what = 0; what < some.length; what++) {
+            due(roomy.count(what), some[what]);
+            due(full.count(what), most[what]);
+        }
     }
 
     /** Makes the call on a new object for each part; with a FINDING its count, and no more, has grown. */

@@ -30,6 +30,7 @@ public final class WorksBoundaryTest extends Checks {
         spillOfNothing();
         hold();
         findingsDoNothingElse();
+        findingsLeaveTotalAndSlot();
         theLatestTwentyAreTold();
         oneMayBeAtTheSideOften();
         finish();
@@ -651,6 +652,42 @@ public final class WorksBoundaryTest extends Checks {
         due(x.slot(0), 0);
         due(x.count(6), 2);
         due(x.count(7), 1);
+    }
+
+    private static void findingsLeaveTotalAndSlot() {
+        about("With a FINDING .. nothing else is done: TOTAL and SLOT stay as they were");
+        int[] worked = {1, 2, 5, 6, 4, 8, 8, 12, 7, 15, 11, 9, 3};
+        long[] totals = {15, 76, 9, 9, 9, 5, 0, 5, 9, 5, 28, 0, 0};
+        for (int work = WEIGH; work <= HOLD; work++) {
+            Line x = oneOfEach(1);
+            int emptyRow = x.row(8, 0);
+            fillFirstPlaces(x);
+            x.station(17, work);
+            int slot = work == WEIGH || work == HOLD ? worked[work] : NONE;
+            due(sendAndStep(x, worked[work]), 0);
+            due(x.total(0), totals[work]);
+            due(x.slot(0), slot);
+            for (int form = 0; form <= 15 && work != HOLD; form++) {
+                if (!isOf(form, TAKEN_FOR[work])) {
+                    due(sendAndStep(x, form), CAST);
+                    due(x.total(0), totals[work]);
+                    due(x.slot(0), slot);
+                }
+            }
+            due(sendAndStep(x, emptyRow), isOf(8, TAKEN_FOR[work]) ? whenTaken(work, 0) : CAST);
+            due(x.total(0), totals[work]);
+        }
+    }
+
+    private static void fillFirstPlaces(Line x) {
+        for (int form = 4; form <= 6; form++) {
+            x.put(form, form, 0, 9);
+        }
+        x.lay(7, 7, 0, 5);
+        x.lay(8, 8, 0, 0);
+        x.lay(11, 11, 0, 3);
+        x.lay(12, 12, 0, 8);
+        x.lay(15, 15, 0, 12);
     }
 
     private static void theLatestTwentyAreTold() {
